@@ -241,7 +241,7 @@ public final class SweptFloors {
         int rooms = 0;
         for (int lowest = 0; lowest < MOST_CELLS; lowest++) {
             if (holds(left, lowest)) {
-                long room = ground.hangingWith(lowest, left);
+                long room = ground.within(MOST_CELLS, lowest, left);
                 if (holds(room, cell)) {
                     return rooms;
                 }
@@ -258,7 +258,7 @@ public final class SweptFloors {
         }
         long free = now.freeCells();
         if (what == 0) {
-            return Long.bitCount(ground.hangingWith(ground.dock, free));
+            return Long.bitCount(ground.within(MOST_CELLS, ground.dock, free));
         }
         return 2 * ground.mostSteps(ground.dock, free);
     }
@@ -539,11 +539,25 @@ public final class SweptFloors {
                 | ((cells & ~leftmost) >>> 1);
         }
 
+        /** The cells of a set to which it is so many steps at most, over cells of it alone. */
+        private long within(int steps, int from, long among) {
+            long reached = steps < 0 ? 0 : only(from) & among;
+            for (int i = 0; i < steps && i < MOST_CELLS; i++) {
+                long next = reached | (around(reached) & among);
+                if (next == reached) {
+                    break;
+                }
+                reached = next;
+            }
+            return reached;
+        }
+
         /** The fewest steps over cells of a set alone, both ends too; NONE. */
         private int stepsBetween(int from, int to, long among) {
+            long goal = only(to);
             long reached = only(from) & among;
             for (int steps = 0; steps < MOST_CELLS; steps++) {
-                if (holds(reached, to)) {
+                if ((reached & goal) != 0) {
                     return steps;
                 }
                 long next = reached | (around(reached) & among);
@@ -553,14 +567,6 @@ public final class SweptFloors {
                 reached = next;
             }
             return NONE;
-        }
-
-        private long hangingWith(int from, long among) {
-            long reached = only(from) & among;
-            for (int steps = 0; steps < MOST_CELLS; steps++) {
-                reached |= around(reached) & among;
-            }
-            return reached;
         }
 
         /** How many steps it is to the cell of a set that is farthest over cells of it. */
@@ -883,42 +889,19 @@ public final class SweptFloors {
             long reached = only(robot.cell) & robot.knownFree;
             long farthest = reached;
             for (int steps = 0; steps < MOST_CELLS && farthest != 0; steps++) {
-                if (findsTargetBy(farthest, unknown, steps + 1, robot)) {
+                // of the charge that is left in a target, the first step leads back to the gate
+                int mostHome = robot.charge - (steps + 1) - 1;
+                long gates = farthest & ground.within(mostHome, ground.dock, robot.knownFree);
+                long targets = ground.around(gates) & unknown;
+                if (targets != 0) {
+                    target = lowestOf(targets);
+                    gate = lowestOf(gates & ground.around(only(target)));
+                    way = steps + 1;
+                    wayBack = robot.homeOf(gate) + 1;
                     return true;
                 }
                 farthest = ground.around(reached) & robot.knownFree & ~reached;
                 reached |= farthest;
-            }
-            return false;
-        }
-
-        private boolean findsTargetBy(long gates, long unknown, int wayThere, Situation robot) {
-            Ground ground = robot.ground;
-            long targets = ground.around(gates) & unknown;
-            for (int t = 0; t < MOST_CELLS && targets != 0; t++) {
-                if (holds(targets, t)) {
-                    if (findsGateOf(t, gates & ground.around(only(t)), wayThere, robot)) {
-                        return true;
-                    }
-                    targets &= ~only(t);
-                }
-            }
-            return false;
-        }
-
-        private boolean findsGateOf(int cell, long gates, int wayThere, Situation robot) {
-            long left = gates;
-            for (int i = 0; i < HANDS && left != 0; i++) {
-                int lowest = lowestOf(left);
-                int home = robot.homeOf(lowest);
-                if (home != NONE && wayThere + home + 1 <= robot.charge) {
-                    target = cell;
-                    gate = lowest;
-                    way = wayThere;
-                    wayBack = home + 1;
-                    return true;
-                }
-                left &= ~only(lowest);
             }
             return false;
         }

@@ -10,6 +10,8 @@ public final class FloorTest {
         faults();
         faultChangesNothing();
         newFloorIsAsAtFirst();
+        sameFloorAgainIsAsAtFirst();
+        aTextBehindAFault();
         kindsOfCells();
         checks.end();
     }
@@ -155,6 +157,33 @@ public final class FloorTest {
         checks.due("P4 undo()", x.undo(), Checks.STATE);
         checks.due("P4 back(0)", x.back(0), Checks.STATE);
         checks.due("P4 back(1)", x.back(1), Checks.STATE);
+    }
+
+    private static void sameFloorAgainIsAsAtFirst() {
+        String text = "Dd.#;..#.;";
+        SweptFloors x = Checks.floorOf(text);
+        x.goes(30);
+        x.rotates(2);
+        x.moves(1);
+        checks.holds("P4 it knows walls", x.robot(5) > 0);
+        checks.due("P4 the door is shut", x.cell(1), 5);
+        Checks.tell(x, text);
+        checks.due("P4 floor()", x.floor(), 8);
+        checks.holds("P4 all is as at first", Checks.portrait(x).equals(Checks.portrait(Checks.floorOf(text))));
+    }
+
+    private static void aTextBehindAFault() {
+        SweptFloors x = new SweptFloors();
+        Checks.tell(x, "..;D.;..;.");
+        checks.due("P4 floor(), not ended", x.floor(), -20);
+        x.clear();
+        Checks.tell(x, "D;");
+        checks.due("P4 floor()", x.floor(), 1);
+        Checks.tell(x, "..;D.;.");
+        checks.due("P4 floor(), not ended", x.floor(), -17);
+        Checks.tell(x, " .; ");
+        checks.due("P4 floor(), ended now", x.floor(), 6);
+        checks.due("P4 width", x.count(0), 2);
     }
 
     private static void kindsOfCells() {

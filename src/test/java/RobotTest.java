@@ -14,6 +14,7 @@ public final class RobotTest {
         placesByUnknownCells();
         placesByDoors();
         placesByBarredCells();
+        placesByAStepThatGoes();
         foundByAScan();
         foundByAStep();
         checks.end();
@@ -134,13 +135,7 @@ public final class RobotTest {
         // from the target the gate on the right comes ahead of that on the left, but the left one is lower
         SweptFloors y = Checks.floorOf("...;.#.;.D.;");
         checks.due("P17 the wall", y.steps(), 1);
-        int[] headings = {3, 0, 0, 2, 2, 1, 1, 0, 0, 2, 2, 3};
-        for (int heading : headings) {
-            if (y.robot(1) != heading) {
-                y.rotates((heading - y.robot(1) + 4) % 4);
-            }
-            checks.due("P17 goes round", y.steps(), 0);
-        }
+        walk(y, 3, 0, 0, 2, 2, 1, 1, 0, 0, 2, 2, 3);
         targetIs("the lowest gate, not the first hand", y, 1, 4, 4, 0);
     }
 
@@ -159,20 +154,41 @@ public final class RobotTest {
         y.goes(1);
         targetIs("just enough", y, 1, 1, 1, 0);
 
-        // a lower cell is too far from home by its gate, the next one is not
-        SweptFloors z = Checks.floorOf("..;..;D.;");
-        z.steps();
-        z.steps();
-        z.rotates(2);
-        z.steps();
-        targetIs("enough for both", z, 3, 1, 2, 2);
+        // two targets as near, the lower one farther from home
+        SweptFloors z = Checks.floorOf("...D..;");
+        walk(z, 3, 3, 1);
+        z.powers(5, 1);
+        targetIs("enough for both", z, 0, 2, 3, 1);
+        z.powers(4, 1);
+        targetIs("enough for the higher one", z, 4, 2, 1, 3);
+        z.powers(3, 1);
+        targetIs("just enough for it", z, 4, 2, 1, 3);
         z.powers(2, 1);
         targetIs("for none", z, Checks.NONE, Checks.NONE, Checks.NONE, Checks.NONE);
-        z.powers(3, 1);
-        z.steps();
-        checks.due("P17 in the dock", z.robot(0), 4);
-        z.goes(2);
-        targetIs("from the dock", z, 5, 1, 1, 4);
+
+        // two gates as near, the lower one farther from home
+        SweptFloors w = Checks.floorOf("...;.#.;..D;");
+        walk(w, 3);
+        w.rotates(1);
+        checks.due("P17 the wall", w.steps(), 1);
+        walk(w, 3, 0, 0, 2, 2, 1, 1, 0, 0, 2, 2, 3);
+        w.powers(9, 1);
+        targetIs("enough for both gates", w, 1, 4, 5, 0);
+        w.powers(8, 1);
+        targetIs("enough for the higher gate", w, 1, 4, 3, 2);
+        w.powers(7, 1);
+        targetIs("just enough for it", w, 1, 4, 3, 2);
+        w.powers(6, 1);
+        targetIs("for none", w, Checks.NONE, Checks.NONE, Checks.NONE, Checks.NONE);
+    }
+
+    private static void walk(SweptFloors x, int... headings) {
+        for (int heading : headings) {
+            if (x.robot(1) != heading) {
+                x.rotates((heading - x.robot(1) + 4) % 4);
+            }
+            checks.due("P8 goes on to " + heading, x.steps(), 0);
+        }
     }
 
     private static void placeOfOneThatIsNotLost() {
@@ -267,6 +283,24 @@ public final class RobotTest {
         x.carries(2, 0);
         checks.due("P18 step", x.steps(), 1);
         placesAre("behind a bump", x, 0, 2, 3, 8, 9, 10);
+    }
+
+    private static void placesByAStepThatGoes() {
+        SweptFloors x = Checks.floorOf("D.;.#;");
+        x.goes(60);
+        x.carries(2, 0);
+        checks.due("P18 step", x.steps(), 0);
+        placesAre("none through the known wall", x, 0, 3, 5, 10);
+
+        SweptFloors y = Checks.floorOf("D.;.n;");
+        y.carries(2, 0);
+        checks.due("P18 step", y.steps(), 0);
+        placesAre("none through the barred cell", y, 0, 3, 5, 10);
+
+        SweptFloors z = Checks.floorOf("D.;.#;");
+        z.carries(2, 0);
+        checks.due("P18 step", z.steps(), 0);
+        placesAre("through the unknown wall", z, 0, 3, 4, 5, 10, 11, 13, 14);
     }
 
     private static void foundByAScan() {

@@ -6,7 +6,9 @@ import java.nio.file.Files;
 import java.nio.file.Path;
 import java.util.ArrayList;
 import java.util.List;
+import java.util.Map;
 import java.util.Set;
+import java.util.TreeMap;
 import java.util.TreeSet;
 import java.util.regex.Matcher;
 import java.util.regex.Pattern;
@@ -26,6 +28,7 @@ public final class RulesTest {
         String text = Files.readString(Path.of("src/main/java/SweptFloors.java"));
         words(text.replaceAll("(?s)/\\*.*?\\*/", "").replaceAll("//[^\n]*", ""));
         lengths(text);
+        depths(text.replaceAll("(?s)/\\*.*?\\*/", "").replaceAll("//[^\n]*", ""));
         checks.end();
     }
 
@@ -125,5 +128,37 @@ public final class RulesTest {
             }
         }
         checks.holds("methods were seen", open.size() > 50);
+    }
+
+    /** Follows calls by their names alone, which is right as long as each name stands for one method. */
+    private static void depths(String code) {
+        Map<String, String> bodies = new TreeMap<>();
+        Matcher heads = Pattern.compile("(?m)^ {4,8}(?:public|private)[\\w\\s\\[\\]]*?(\\w+)\\([^)]*\\) \\{$").matcher(code);
+        while (heads.find()) {
+            String indent = heads.group().replaceAll("(?s)^( *).*", "$1");
+            int end = code.indexOf("\n" + indent + "}", heads.end());
+            checks.holds("one method alone is named " + heads.group(1),
+                bodies.put(heads.group(1), code.substring(heads.end(), end)) == null);
+        }
+        checks.holds("all methods were seen", bodies.size() > 60);
+        for (String name : bodies.keySet()) {
+            int depth = depth(name, bodies, 0);
+            checks.holds(name + " goes " + depth + " deep", depth <= 8);
+        }
+    }
+
+    private static int depth(String name, Map<String, String> bodies, int above) {
+        if (above > 20) {
+            return 99;
+        }
+        int most = 0;
+        Matcher calls = Pattern.compile("\\b(\\w+)\\(").matcher(bodies.get(name));
+        while (calls.find()) {
+            int below = bodies.containsKey(calls.group(1)) ? depth(calls.group(1), bodies, above + 1)
+                : Character.isLowerCase(calls.group(1).charAt(0)) && !calls.group(1).matches("if|for|switch|while") ? 1
+                : 0;
+            most = Math.max(most, below);
+        }
+        return 1 + most;
     }
 }

@@ -919,9 +919,13 @@ public final class SweptFloors {
             }
         }
 
+        private Situation slotOf(int number) {
+            return number >= 0 && number < MOST_UNDONE ? past[number] : null;
+        }
+
         private void remember(Situation now) {
             latest = latest + 1 < MOST_UNDONE ? latest + 1 : 0;
-            Situation slot = past[latest];
+            Situation slot = slotOf(latest);
             if (slot != null) {
                 slot.copyFrom(now);
                 size = Math.min(size + 1, MOST_UNDONE);
@@ -929,7 +933,7 @@ public final class SweptFloors {
         }
 
         private boolean bringBack(Situation now) {
-            Situation slot = past[latest];
+            Situation slot = slotOf(latest);
             if (size <= 0 || slot == null) {
                 return false;
             }

@@ -1,3 +1,5 @@
+import java.util.ArrayList;
+import java.util.List;
 import java.util.Random;
 
 /** Calls with any numbers in any state: none throws, and one that is refused changes nothing. */
@@ -15,10 +17,12 @@ public final class WildCallsTest {
         checks.end();
     }
 
+    /** Each look at the object is a run of its own from its making on, so that none comes to 512 calls. */
     private static void runOf(Random lot) {
-        SweptFloors x = lot.nextBoolean() ? new SweptFloors() : Checks.floorOf("..d.!.;.D#!..;..n...;d.d#..;");
+        boolean small = lot.nextBoolean();
+        List<int[]> calls = new ArrayList<>();
+        String before = Checks.portrait(made(small, calls));
         for (int call = 0; call < 150; call++) {
-            String before = Checks.portrait(x);
             int which = lot.nextInt(24);
             int a = lot.nextInt(3) == 0 ? lot.nextInt() : WILD[lot.nextInt(WILD.length)];
             int b = lot.nextInt(3) == 0 ? lot.nextInt() : WILD[lot.nextInt(WILD.length)];
@@ -26,13 +30,25 @@ public final class WildCallsTest {
                 a = lot.nextInt(24);
                 b = lot.nextInt(4);
             }
+            SweptFloors x = made(small, calls);
             int answer = called(x, which, a, b);
+            String behind = Checks.portrait(x);
             boolean asks = which >= 12 && which != 22;
             if (answer < 0 || asks) {
                 checks.holds("call " + which + " of " + a + ", " + b + " answered " + answer + " and changes nothing",
-                    before.equals(Checks.portrait(x)));
+                    before.equals(behind));
             }
+            calls.add(new int[] {which, a, b});
+            before = behind;
         }
+    }
+
+    private static SweptFloors made(boolean small, List<int[]> calls) {
+        SweptFloors x = small ? new SweptFloors() : Checks.floorOf("..d.!.;.D#!..;..n...;d.d#..;");
+        for (int[] call : calls) {
+            called(x, call[0], call[1], call[2]);
+        }
+        return x;
     }
 
     private static int called(SweptFloors x, int which, int a, int b) {

@@ -87,7 +87,7 @@ public final class WildCallsTest {
         long thread = Thread.currentThread().getId();
         SweptFloors x = Checks.floorOf("D.....;......;..#...;......;......;......;");
         long least = Long.MAX_VALUE;
-        for (int round = 0; round < 20; round++) {
+        for (int round = 0; round < 15; round++) {
             long before = meter.getThreadAllocatedBytes(thread);
             for (int which = 0; which < 24; which++) {
                 called(x, which, 1, 1);

@@ -21,14 +21,20 @@ public final class RulesTest {
         "knows(1)", "home(1)", "target(1)", "place(1)", "lane(2)", "room(1)", "reach(1)", "when(0)", "keep(1)",
         "back(1)", "count(1)"));
 
+    /** Of what LANGUAGE.md allows, all that the class uses. */
+    private static final Set<String> LIBRARY = Set.of("Math.min", "Long.bitCount", "System.arraycopy");
+
     public static void main(String[] args) throws IOException {
         constants();
         face();
         classesInside();
         String text = Files.readString(Path.of("src/main/java/SweptFloors.java"));
-        words(text.replaceAll("(?s)/\\*.*?\\*/", "").replaceAll("//[^\n]*", ""));
+        String code = text.replaceAll("(?s)/\\*.*?\\*/", "").replaceAll("//[^\n]*", "");
+        words(code);
+        library(code);
+        loops(code);
         lengths(text);
-        depths(text.replaceAll("(?s)/\\*.*?\\*/", "").replaceAll("//[^\n]*", ""));
+        depths(code);
         checks.end();
     }
 
@@ -105,6 +111,21 @@ public final class RulesTest {
             made++;
         }
         checks.holds("few things are made", made <= 20);
+    }
+
+    private static void library(String code) {
+        Matcher used = Pattern.compile("\\b[A-Z][A-Za-z]+\\.[a-z]\\w*").matcher(code);
+        while (used.find()) {
+            checks.holds(used.group() + " is of the library that is allowed", LIBRARY.contains(used.group()));
+        }
+    }
+
+    private static void loops(String code) {
+        Matcher heads = Pattern.compile("\\b(for|while|do)\\b.*").matcher(code);
+        while (heads.find()) {
+            checks.holds("counts up to a bound: " + heads.group(), heads.group().matches(
+                "for \\(int (\\w+) = 0; \\1 <=? [\\w.]+( \\* \\w+)?( && .*)?; \\1\\+\\+\\) \\{"));
+        }
     }
 
     private static void lengths(String text) {
